@@ -615,7 +615,6 @@ public final class FleetFloor {
         private final Cells[] reached;
         private final Cells aim;
         private final Cells scratch;
-        private final Cells before;
         private final int[] way;
         private int first;
         private int second;
@@ -638,7 +637,6 @@ public final class FleetFloor {
             }
             aim = new Cells();
             scratch = new Cells();
-            before = new Cells();
             way = new int[LONGEST_PLAN + 1];
         }
 
@@ -766,14 +764,11 @@ public final class FleetFloor {
             }
         }
 
+        /** Where a mark is, nobody else is at its time or one earlier: it can be entered and stayed in. */
         private void keepThoseBefore(int t, int leg) {
-            scratch.copy(aim);
-            scratch.keep(canEnter[t + 1]);
-            before.becomeNeighboursOf(scratch);
-            scratch.copy(aim);
-            scratch.keep(canBe[t + 1]);
-            before.join(scratch);
-            at(t, leg).keep(before);
+            scratch.becomeNeighboursOf(aim);
+            scratch.join(aim);
+            at(t, leg).keep(scratch);
         }
 
         /** Among the pruned marks every step leads to the end, so the lowest move is always right. */
@@ -794,7 +789,7 @@ public final class FleetFloor {
         private int lowestStep(int t, int place, int leg) {
             for (int direction = 0; direction < DIRECTIONS; direction++) {
                 int next = neighbour(place, direction);
-                if (next != NONE && canEnter[t].has(next) && at(t, legAt(next, leg)).has(next)) {
+                if (next != NONE && at(t, legAt(next, leg)).has(next)) {
                     return next;
                 }
             }

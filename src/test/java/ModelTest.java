@@ -4,6 +4,7 @@ import java.util.Random;
 public final class ModelTest {
     private static final int RUNS = 400;
     private static final int CALLS = 512;
+    private static final int SNAKE = 5;
     private static final int ILLEGAL_ARGUMENT = -2;
     private static final int ILLEGAL_STATE = -3;
 
@@ -72,15 +73,19 @@ public final class ModelTest {
     /** Draws maps until one is good; each that is not good is opened too. */
     private void drawMap() {
         for (int tries = 0; tries < 2000; tries++) {
-            int shape = dice.nextInt(5);
+            int shape = dice.nextInt(6);
             int[] kinds = new int[96];
             for (int c = 0; c < 96; c++) {
                 kinds[c] = ground(shape, c % 12, c / 12);
             }
             int parkings = tries % 50 == 49 ? dice.nextInt(9) : 1 + dice.nextInt(6);
             int stations = tries % 50 == 49 ? dice.nextInt(20) : 2 + dice.nextInt(shape < 2 ? 8 : 3);
-            scatter(kinds, parkings, FleetFloor.PARKING, shape);
-            scatter(kinds, stations, FleetFloor.STATION, shape);
+            if (shape == SNAKE) {
+                endSnake(kinds);
+            } else {
+                scatter(kinds, parkings, FleetFloor.PARKING, shape);
+                scatter(kinds, stations, FleetFloor.STATION, shape);
+            }
             for (int c = 0; c < 96; c++) {
                 model.cell(c, kinds[c]);
                 Check.due(name + "cell", floor.cell(c, kinds[c]), true);
@@ -103,8 +108,26 @@ public final class ModelTest {
                 return y % 2 == 1 || x == (y % 4 == 0 ? 11 : 0) ? FleetFloor.FLOOR : FleetFloor.WALL;
             case 3:
                 return x % 2 == 1 || y == (x % 4 == 0 ? 7 : 0) ? FleetFloor.FLOOR : FleetFloor.WALL;
+            case SNAKE:
+                return y % 2 == 1 || x == (y % 4 == 0 ? 11 : 0) ? FleetFloor.FLOOR : FleetFloor.WALL;
             default:
                 return y == 3 || (x == 3 && dice.nextInt(2) == 0) ? FleetFloor.FLOOR : FleetFloor.WALL;
+        }
+    }
+
+    /** Parkings over one end of a long corridor and a station in its other end: plans come near the limit. */
+    private void endSnake(int[] kinds) {
+        int last = 84 + dice.nextInt(6);
+        for (int c = last; c < 96; c++) {
+            kinds[c] = FleetFloor.WALL;
+        }
+        kinds[last] = FleetFloor.STATION;
+        for (int n = 0; n < 5; n++) {
+            kinds[dice.nextInt(11)] = n < 2 ? FleetFloor.STATION : FleetFloor.PARKING;
+        }
+        for (int n = dice.nextInt(3); n > 0; n--) {
+            int bay = 24 + dice.nextInt(11);
+            kinds[bay] = kinds[bay] == FleetFloor.WALL ? FleetFloor.PARKING : kinds[bay];
         }
     }
 
