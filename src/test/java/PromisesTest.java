@@ -1,16 +1,5 @@
 /** The promises of DOC.md one by one: ordinary inputs, the edges that the document names, wrong inputs. */
-public final class PromisesTest {
-    private static final int NONE = FleetFloor.NONE;
-    private static final int ARGUMENT = -2;
-    private static final int STATE = -3;
-    private static final int[] FAR = {Integer.MIN_VALUE, -1000, 1000, Integer.MAX_VALUE};
-
-    /** Two parkings over a corridor, two stations under it. */
-    private static final String[] SMALL = {"P#P", "...", "S#S"};
-
-    /** The lower vehicle's way to station 0 joins the upper one's in cell 1. */
-    private static final String[] FORK = {"P.S", "#.#", "P.S"};
-
+public final class PromisesTest extends Floors {
     private PromisesTest() {
     }
 
@@ -279,12 +268,6 @@ public final class PromisesTest {
         dueMoves("5 straight", waiting, 0, 1, 2, 1, 0);
         dueMoves("5 moves are lower than STAY", waiting, 1, 25, 13, 25, 13, 1, 2, 1, 13, 25, 24);
         Check.due("5 cells that others come to", meet(waiting, 2), false);
-    }
-
-    /** A corridor so long that the second vehicle must wait for the first one's way back. */
-    private static String[] snake(String top) {
-        return new String[] {top, "............", ".###########", "............", "###########.",
-            "............", ".###########", "....S#######"};
     }
 
     private static void promise5LongestPlan() {
@@ -632,139 +615,5 @@ public final class PromisesTest {
         Check.due("14 none pending", floor.count(0), 0);
         Check.due("14 all tasks", floor.count(1), 3);
         Check.due("14 ticks", floor.count(2), 61);
-    }
-
-    private static FleetFloor drawn(String... rows) {
-        FleetFloor floor = new FleetFloor();
-        for (int y = 0; y < rows.length; y++) {
-            for (int x = 0; x < rows[y].length(); x++) {
-                floor.cell(12 * y + x, "#.SP".indexOf(rows[y].charAt(x)));
-            }
-        }
-        return floor;
-    }
-
-    private static FleetFloor opened(String... rows) {
-        FleetFloor floor = drawn(rows);
-        Check.due("a good map opens", open(floor) > 0, true);
-        return floor;
-    }
-
-    private static int open(FleetFloor floor) {
-        try {
-            return floor.open();
-        } catch (IllegalArgumentException e) {
-            return ARGUMENT;
-        } catch (IllegalStateException e) {
-            return STATE;
-        }
-    }
-
-    private static int task(FleetFloor floor, int first, int second) {
-        try {
-            return floor.task(first, second);
-        } catch (IllegalArgumentException e) {
-            return ARGUMENT;
-        } catch (IllegalStateException e) {
-            return STATE;
-        }
-    }
-
-    private static int tick(FleetFloor floor) {
-        try {
-            return floor.tick();
-        } catch (IllegalStateException e) {
-            return STATE;
-        }
-    }
-
-    private static void run(FleetFloor floor, int ticks) {
-        for (int i = 0; i < ticks; i++) {
-            deliverAll(floor);
-            tick(floor);
-        }
-    }
-
-    private static void deliverAll(FleetFloor floor) {
-        for (int i = 0; i < 60 && floor.letters() > 0; i++) {
-            Check.due("8 a letter comes", floor.deliver(0), true);
-        }
-    }
-
-    private static void deliverLimits(FleetFloor floor) {
-        for (int k = floor.letters() - 1; k >= 0; k--) {
-            if (floor.letter(k, 0) == 0) {
-                floor.deliver(k);
-            } else {
-                floor.lose(k);
-            }
-        }
-    }
-
-    private static int lastTime(FleetFloor floor, int v) {
-        return floor.move(v, floor.vehicle(v, 5) - 1, 1);
-    }
-
-    private static int lastCell(FleetFloor floor, int v) {
-        return floor.move(v, floor.vehicle(v, 5) - 1, 0);
-    }
-
-    private static boolean comesTo(FleetFloor floor, int v, int cell) {
-        for (int i = 0; i < floor.vehicle(v, 5); i++) {
-            if (floor.move(v, i, 0) == cell) {
-                return true;
-            }
-        }
-        return false;
-    }
-
-    /** Where the plans of a vehicle that has made no move yet have it at a time. */
-    private static int planned(FleetFloor floor, int v, int time) {
-        int place = floor.vehicle(v, 0);
-        for (int i = 0; i < floor.vehicle(v, 5) && floor.move(v, i, 1) <= time; i++) {
-            place = floor.move(v, i, 0);
-        }
-        return place;
-    }
-
-    /** Whether one of the first vehicles comes to a cell where another is at that time or one earlier. */
-    private static boolean meet(FleetFloor floor, int vehicles) {
-        for (int v = 0; v < vehicles; v++) {
-            for (int i = 0; i < floor.vehicle(v, 5); i++) {
-                for (int u = 0; u < vehicles; u++) {
-                    int time = floor.move(v, i, 1);
-                    int cell = floor.move(v, i, 0);
-                    if (u != v && (planned(floor, u, time) == cell || planned(floor, u, time - 1) == cell)) {
-                        return true;
-                    }
-                }
-            }
-        }
-        return false;
-    }
-
-    private static void dueLetter(String what, FleetFloor floor, int k, int kind, int vehicle, int number) {
-        Check.due(what + ", kind", floor.letter(k, 0), kind);
-        Check.due(what + ", vehicle", floor.letter(k, 1), vehicle);
-        Check.due(what + ", number", floor.letter(k, 2), number);
-    }
-
-    private static void dueMoves(String what, FleetFloor floor, int v, int... cells) {
-        Check.due(what + ", how many", floor.vehicle(v, 5), cells.length);
-        for (int i = 0; i < cells.length; i++) {
-            Check.due(what + ", move " + i, floor.move(v, i, 0), cells[i]);
-        }
-    }
-
-    private static void dueVehicle(String what, FleetFloor floor, int v, int... answers) {
-        for (int i = 0; i < answers.length; i++) {
-            Check.due(what + ", " + i, floor.vehicle(v, i), answers[i]);
-        }
-    }
-
-    private static void dueCounts(String what, FleetFloor floor, int... answers) {
-        for (int i = 0; i < answers.length; i++) {
-            Check.due(what + ", " + i, floor.count(i), answers[i]);
-        }
     }
 }
