@@ -11,6 +11,24 @@ abstract class Floors {
     /** The lower vehicle's way to station 0 joins the upper one's in cell 1. */
     static final String[] FORK = {"P.S", "#.#", "P.S"};
 
+    /**
+     * Two ways round for the last vehicle, each with a STAY: by one it is at the left end of a row when, one
+     * time later, by the other it is at the right end of the row above. Found by a search.
+     */
+    static final String[] RING = {"............", ".###P.####S.", ".S##P.#.###.", ".##########.", ".##########.",
+        ".##########.", ".S#########.", "............"};
+    static final int[][] RING_TASKS = {{0, 2}, {2, 2}};
+
+    /** The same for the right end of a row and the left end of the row below. Found by a search. */
+    static final String[] LADDER = {"####S####P#.", "............", ".####PP#####", "............", "#####S#####.",
+        "............", ".P##########", "............"};
+    static final int[][] LADDER_TASKS = {{0, 1}, {0, 1}, {0, 1}, {0, 0}};
+
+    /** The last plan must keep clear of a move at the last time but one that a plan has. Found by a search. */
+    static final String[] LATE = {"P##.P###S#S.", "...........#", ".######P####", "............", "########P##.",
+        "............", ".S######P##P", "............"};
+    static final int[][] LATE_TASKS = {{2, 0}, {2, 1}, {0, 0}, {1, 2}, {1, 1}, {1, 0}};
+
     static FleetFloor drawn(String... rows) {
         FleetFloor floor = new FleetFloor();
         for (int y = 0; y < rows.length; y++) {
@@ -228,5 +246,18 @@ abstract class Floors {
                     .append(floor.letter(k, 2)).append(' ');
         }
         return text.toString();
+    }
+
+    /** Whether each move of a vehicle that has made none yet leads from one neighbour to the next. */
+    static boolean goesByNeighbours(FleetFloor floor, int v) {
+        int place = floor.vehicle(v, 0);
+        for (int i = 0; i < floor.vehicle(v, 5); i++) {
+            int next = floor.move(v, i, 0);
+            if (Math.abs(place % 12 - next % 12) + Math.abs(place / 12 - next / 12) != 1) {
+                return false;
+            }
+            place = next;
+        }
+        return true;
     }
 }

@@ -24,6 +24,9 @@ public final class ModelTest {
         for (int seed = 0; seed < runs && Check.allRight(); seed++) {
             new ModelTest(seed).run();
         }
+        new ModelTest(-1).runOn(Floors.RING, Floors.RING_TASKS);
+        new ModelTest(-2).runOn(Floors.LADDER, Floors.LADDER_TASKS);
+        new ModelTest(-3).runOn(Floors.LATE, Floors.LATE_TASKS);
         System.out.println("plans " + FleetFloorModel.plansMade + ", missing " + FleetFloorModel.plansMissing
                 + ", stays " + FleetFloorModel.staysPlanned + ", grants held back "
                 + FleetFloorModel.grantsHeldBack + ", letters dropped " + FleetFloorModel.lettersDropped
@@ -59,6 +62,23 @@ public final class ModelTest {
             }
         }
         compareAll();
+    }
+
+    /** A floor that chance would hardly draw; all letters come at once. */
+    private void runOn(String[] rows, int[][] tasks) {
+        for (int c = 0; c < 96; c++) {
+            int kind = "#.SP".indexOf(rows[c / 12].charAt(c % 12));
+            due("cell", floor.cell(c, kind), model.cell(c, kind));
+        }
+        sameOpen();
+        for (int[] stations : tasks) {
+            sameTask(stations[0], stations[1]);
+        }
+        while (calls < CALLS) {
+            sameTick();
+            compareAll();
+            useAir(3);
+        }
     }
 
     private void due(String call, long got, long want) {

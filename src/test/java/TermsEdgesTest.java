@@ -13,8 +13,10 @@ public final class TermsEdgesTest extends Floors {
         calls();
         cells();
         kinds();
+        sameEverywhere();
         neighboursEndAtTheSides();
         neighboursEndAboveAndBelow();
+        neighboursAlways();
         numbers();
         vehiclesAtFirst();
         goodCounts();
@@ -28,6 +30,8 @@ public final class TermsEdgesTest extends Floors {
         planEndsAtFirstReturn();
         keepsClearWhenItComes();
         keepsClearWhenOthersCome();
+        keepsClearAtTheClock();
+        keepsClearToTheEnd();
         keepsClearOfAll();
         earliest();
         lowestNeighbours();
@@ -37,6 +41,7 @@ public final class TermsEdgesTest extends Floors {
         planClock();
         grantedInOrder();
         grantedBehindOthers();
+        grantedBehindMoveZero();
         lettersInOrder();
         lettersFull();
         limitComes();
@@ -56,13 +61,7 @@ public final class TermsEdgesTest extends Floors {
 
     private static void calls() {
         Check.sentence("An object is used for at most 512 calls after it has been made");
-        FleetFloor floor = new FleetFloor();
-        int[] cells = {0, 2, 12, 13, 14, 24, 26};
-        int[] kinds = {3, 3, 1, 1, 1, 2, 2};
-        for (int i = 0; i < 7; i++) {
-            floor.cell(cells[i], kinds[i]);
-        }
-        open(floor);
+        FleetFloor floor = inEightCalls();
         for (int call = 9; call <= 504; call++) {
             Check.due("call " + call + ", tick", tick(floor), 0);
         }
@@ -74,6 +73,23 @@ public final class TermsEdgesTest extends Floors {
         Check.due("call 510, tick 497", tick(floor), 1);
         Check.due("call 511, tick 498", tick(floor), 1);
         Check.due("call 512", floor.vehicle(0, 0), 24);
+
+        FleetFloor ticking = inEightCalls();
+        for (int call = 9; call <= 511; call++) {
+            Check.due("call " + call + ", tick", tick(ticking), 0);
+        }
+        Check.due("call 512, the tick to come", ticking.count(2), 503);
+    }
+
+    private static FleetFloor inEightCalls() {
+        FleetFloor floor = new FleetFloor();
+        int[] cells = {0, 2, 12, 13, 14, 24, 26};
+        int[] kinds = {3, 3, 1, 1, 1, 2, 2};
+        for (int i = 0; i < 7; i++) {
+            floor.cell(cells[i], kinds[i]);
+        }
+        Check.due("call 8, open", open(floor), 2);
+        return floor;
     }
 
     private static void cells() {
@@ -119,6 +135,48 @@ public final class TermsEdgesTest extends Floors {
         dueMoves("not over a wall", walled, 0, 12, 24, 25, 26, 14, 2, 14, 26, 25, 24, 12, 0);
     }
 
+    private static void sameEverywhere() {
+        Check.sentence("THE MAP has 12 * 8 CELLS");
+        dueEverywhere("a corridor, to the left", SMALL, 0);
+        dueEverywhere("a corridor, to the right", SMALL, 1);
+        dueEverywhere("a fork, to the upper right", FORK, 0);
+        dueEverywhere("a fork, to the lower right", FORK, 1);
+        dueEverywhere("a fork to the left", new String[] {"S.P", "#.#", "S.P"}, 0);
+    }
+
+    /** Two vehicles that are in each other's way have the same plans wherever they are on the map. */
+    private static void dueEverywhere(String what, String[] rows, int station) {
+        String corner = plansOf(rows, 0, 0, station);
+        Check.due(what + ", each has a plan", corner.startsWith("/") || corner.contains("//"), false);
+        for (int dy = 0; dy <= 5; dy++) {
+            for (int dx = 0; dx <= 9; dx++) {
+                Check.due(what + ", " + dx + " right, " + dy + " down", plansOf(rows, dx, dy, station), corner);
+            }
+        }
+    }
+
+    private static String plansOf(String[] rows, int dx, int dy, int station) {
+        FleetFloor floor = new FleetFloor();
+        for (int cell = 0; cell < 36; cell++) {
+            int x = cell % 12;
+            if (x < 3) {
+                floor.cell(cell + 12 * dy + dx, "#.SP".indexOf(rows[cell / 12].charAt(x)));
+            }
+        }
+        open(floor);
+        task(floor, station, station);
+        task(floor, station, station);
+        tick(floor);
+        StringBuilder text = new StringBuilder();
+        for (int v = 0; v < 2; v++) {
+            for (int i = 0; i < floor.vehicle(v, 5); i++) {
+                text.append(floor.move(v, i, 0) - 12 * dy - dx).append('@').append(floor.move(v, i, 1)).append(' ');
+            }
+            text.append('/');
+        }
+        return text.toString();
+    }
+
     private static void neighboursEndAtTheSides() {
         Check.sentence("NEIGHBOURS: 0 above (y - 1), 1 right, 2 below, 3 left");
         Check.due("no way from the end of a row to the next one",
@@ -147,6 +205,29 @@ public final class TermsEdgesTest extends Floors {
         task(up, 0, 0);
         tick(up);
         Check.due("the long way up", lastTime(up, 0), 18);
+    }
+
+    private static void neighboursAlways() {
+        Check.sentence("at each next time where it was (STAY) or at a neighbour");
+        FleetFloor ring = withTasks(RING, RING_TASKS);
+        Check.due("vehicle 0 on the ring", goesByNeighbours(ring, 0), true);
+        Check.due("vehicle 1 on the ring", goesByNeighbours(ring, 1), true);
+        Check.due("its way has one STAY", lastTime(ring, 1) - ring.vehicle(1, 5), 1);
+        FleetFloor ladder = withTasks(LADDER, LADDER_TASKS);
+        for (int v = 0; v < 4; v++) {
+            Check.due("vehicle " + v + " on the ladder", goesByNeighbours(ladder, v), true);
+        }
+        Check.due("the last way", lastTime(ladder, 3), 58);
+    }
+
+    /** An opened floor after the tick in which its vehicles got these tasks. */
+    private static FleetFloor withTasks(String[] rows, int[][] tasks) {
+        FleetFloor floor = opened(rows);
+        for (int[] stations : tasks) {
+            task(floor, stations[0], stations[1]);
+        }
+        tick(floor);
+        return floor;
     }
 
     private static void numbers() {
@@ -382,6 +463,35 @@ public final class TermsEdgesTest extends Floors {
         return time;
     }
 
+    /** The clock stands at 2 when vehicle 2 gets its plan: then vehicle 0 is above it and goes on at 3. */
+    private static void keepsClearAtTheClock() {
+        Check.sentence("no other plan has its vehicle there at that time or one earlier");
+        FleetFloor floor = opened("########S###", "S..........P", "########PP##");
+        task(floor, 1, 1);
+        task(floor, 0, 0);
+        tick(floor);
+        Check.due("the clock", floor.count(3), 2);
+        Check.due("where vehicle 0 is then", floor.move(0, 1, 0), 21);
+        Check.due("where it goes on", floor.move(0, 2, 0), 20);
+        Check.due("when it goes on", floor.move(0, 2, 1), 3);
+        task(floor, 0, 0);
+        for (int t = 1; t <= 4; t++) {
+            tick(floor);
+        }
+        Check.due("vehicle 2 goes there", floor.move(2, 0, 0), 21);
+        Check.due("not at 3, for vehicle 0 was there one time earlier", floor.move(2, 0, 1), 4);
+    }
+
+    private static void keepsClearToTheEnd() {
+        Check.sentence("up to its end, not above s + 150");
+        FleetFloor floor = withTasks(LATE, LATE_TASKS);
+        Check.due("vehicle 3 is home at the last time", lastTime(floor, 3), 150);
+        Check.due("one time earlier it comes to the cell above", floor.move(3, 146, 0), 68);
+        Check.due("so there is no plan for vehicle 4", floor.vehicle(4, 5), 0);
+        Check.due("two tasks are pending", floor.count(0), 2);
+        Check.due("nobody meets", meet(floor, 6), false);
+    }
+
     private static void keepsClearOfAll() {
         Check.sentence("It KEEPS CLEAR of all plans that were made before");
         FleetFloor floor = opened("PPPPPP", "......", "S....S");
@@ -586,6 +696,25 @@ public final class TermsEdgesTest extends Floors {
         tick(floor);
         Check.due("KNOWN 11: it left", floor.vehicle(0, 4), 22);
         Check.due("the clock", floor.count(3), 22);
+    }
+
+    private static void grantedBehindMoveZero() {
+        Check.sentence("KNOWN of that one is above j + 1 (so it has left)");
+        FleetFloor floor = opened("#S", "#.", "#.", "P..........S", "#P");
+        task(floor, 1, 1);
+        task(floor, 0, 0);
+        tick(floor);
+        Check.due("move 0 of both is to the same cell", floor.move(1, 0, 0), floor.move(0, 0, 0));
+        Check.due("KNOWN 0: vehicle 1 is granted nothing", floor.vehicle(1, 4), 0);
+        deliverLimits(floor);
+        tick(floor);
+        tick(floor);
+        deliver(floor, DONE, 0, 1);
+        tick(floor);
+        Check.due("KNOWN 1: nor then", floor.vehicle(1, 4), 0);
+        deliver(floor, DONE, 0, 2);
+        tick(floor);
+        Check.due("KNOWN 2: all", floor.vehicle(1, 4), 8);
     }
 
     private static void lettersInOrder() {
@@ -802,25 +931,20 @@ public final class TermsEdgesTest extends Floors {
         Check.sentence("without a plan nothing");
         String[] rows = snake("P##P###S####");
         rows[6] = ".###P#######";
-        FleetFloor floor = opened(rows);
-        task(floor, 0, 1);
-        task(floor, 0, 1);
-        task(floor, 1, 1);
-        tick(floor);
-        Check.due("vehicle 1 is the lowest idle one and has no plan", floor.vehicle(1, 5), 0);
-        Check.due("vehicle 2 gets nothing either", floor.vehicle(2, 5), 0);
+        FleetFloor floor = withTasks(rows, new int[][] {{0, 1}, {0, 1}, {0, 0}});
+        Check.due("vehicle 1 has no plan for task 1, and gets none for task 2", floor.vehicle(1, 5), 0);
+        Check.due("vehicle 2 gets none for task 1", floor.vehicle(2, 5), 0);
         Check.due("both tasks are pending", floor.count(0), 2);
-        rows[0] = "P######S####";
-        FleetFloor fewer = opened(rows);
-        task(fewer, 0, 1);
-        task(fewer, 0, 1);
-        tick(fewer);
-        Check.due("it would have had a plan", fewer.taskOf(1, 0), 1);
+        FleetFloor younger = withTasks(rows, new int[][] {{0, 1}, {0, 0}});
+        Check.due("for task 2 vehicle 1 would have had one", younger.taskOf(1, 0), 1);
         for (int t = 1; t <= 4; t++) {
             tick(floor);
         }
-        Check.due("the next time the same task is the oldest", floor.taskOf(1, 0), 1);
-        Check.due("and the next one follows", floor.taskOf(2, 0), 2);
+        Check.due("the next time task 1 is the oldest and has a plan", floor.taskOf(1, 0), 1);
+        Check.due("and task 2 follows", floor.taskOf(2, 0), 2);
+        rows[0] = "P######S####";
+        FleetFloor fewer = withTasks(rows, new int[][] {{0, 1}, {0, 1}});
+        Check.due("without vehicle 1 the next one would have had one for task 1", fewer.taskOf(1, 0), 1);
     }
 
     private static void idle() {
