@@ -1,44 +1,38 @@
+import java.io.IOException;
 import java.lang.reflect.Constructor;
 import java.lang.reflect.Field;
 import java.lang.reflect.Method;
 import java.lang.reflect.Modifier;
+import java.nio.file.Files;
+import java.nio.file.Path;
 import java.util.Arrays;
 import java.util.Set;
 import java.util.TreeSet;
+import java.util.regex.Matcher;
+import java.util.regex.Pattern;
 
 /** The public face is the document's and nothing more; what lies inside keeps to LANGUAGE.md. */
 public final class FaceTest {
-    private static final Set<String> METHODS = Set.of(
-            "boolean cell(int, int) ",
-            "int open() IllegalArgumentException IllegalStateException ",
-            "int task(int, int) IllegalStateException IllegalArgumentException ",
-            "int tick() IllegalStateException ",
-            "int letters() ",
-            "int letter(int, int) ",
-            "boolean deliver(int) ",
-            "boolean lose(int) ",
-            "boolean twin(int) ",
-            "int vehicle(int, int) ",
-            "int move(int, int, int) ",
-            "int taskOf(int, int) ",
-            "int count(int) ");
+    private static final Path DOCUMENT = Path.of("../shared/DOC.md");
+    private static final int METHODS = 13;
 
     private FaceTest() {
     }
 
-    public static void main(String[] args) throws IllegalAccessException {
+    public static void main(String[] args) throws IllegalAccessException, IOException {
         int kind = FleetFloor.class.getModifiers();
         Check.due("the class is public", Modifier.isPublic(kind), true);
         Check.due("the class is final", Modifier.isFinal(kind), true);
         Check.due("the class is in no package", FleetFloor.class.getPackageName().isEmpty(), true);
-        constants();
+        String document = Files.readString(DOCUMENT);
+        constants(document);
         constructors();
-        methods();
+        methods(document);
         classesInside();
         Check.end();
     }
 
-    private static void constants() throws IllegalAccessException {
+    private static void constants(String document) throws IllegalAccessException {
         Set<String> found = new TreeSet<>();
         for (Field field : FleetFloor.class.getDeclaredFields()) {
             int kind = field.getModifiers();
@@ -48,7 +42,8 @@ public final class FaceTest {
                 found.add(field.getName() + " = " + field.getInt(null));
             }
         }
-        same("constants", found, Set.of("NONE = -1", "WALL = 0", "FLOOR = 1", "STATION = 2", "PARKING = 3"));
+        same("constants", found, all(document, "(?m)^    public static final int (\\w+ = -?\\d+);$"));
+        Check.due("constants of the document", found.size(), 5);
     }
 
     private static void constructors() {
@@ -58,7 +53,7 @@ public final class FaceTest {
         Check.due("it takes nothing", found[0].getParameterCount(), 0);
     }
 
-    private static void methods() {
+    private static void methods(String document) {
         Set<String> found = new TreeSet<>();
         Set<String> names = new TreeSet<>();
         for (Method method : FleetFloor.class.getDeclaredMethods()) {
@@ -69,7 +64,10 @@ public final class FaceTest {
                 names.add(method.getName());
             }
         }
-        same("methods", found, METHODS);
+        same("methods", found, all(document, "(?m)^    public ((?:int|boolean) \\w+\\(.*);$"));
+        Set<String> promised = all(document, "(?m)^`((?:int|boolean) [^`]*)`: ");
+        same("methods of the promises", found, promised);
+        Check.due("methods of the document", promised.size(), METHODS);
         for (Method method : FleetFloor.class.getDeclaredMethods()) {
             if (Modifier.isPrivate(method.getModifiers())) {
                 Check.due("rule 1: private " + method, names.contains(method.getName()), false);
@@ -77,15 +75,28 @@ public final class FaceTest {
         }
     }
 
+    /** As the document writes it, but without the names of what it takes. */
     private static String written(Method method) {
         StringBuilder text = new StringBuilder();
         text.append(method.getReturnType()).append(' ').append(method.getName());
         String parameters = Arrays.toString(method.getParameterTypes());
-        text.append('(').append(parameters, 1, parameters.length() - 1).append(") ");
+        text.append('(').append(parameters, 1, parameters.length() - 1).append(')');
+        String join = " throws ";
         for (Class<?> thrown : method.getExceptionTypes()) {
-            text.append(thrown.getSimpleName()).append(' ');
+            text.append(join).append(thrown.getSimpleName());
+            join = ", ";
         }
         return text.toString();
+    }
+
+    /** What the document has where a pattern fits. */
+    private static Set<String> all(String document, String pattern) {
+        Set<String> texts = new TreeSet<>();
+        Matcher found = Pattern.compile(pattern).matcher(document);
+        while (found.find()) {
+            texts.add(found.group(1).replaceAll("int \\w+(?=[,)])", "int"));
+        }
+        return texts;
     }
 
     private static void classesInside() {
@@ -98,9 +109,20 @@ public final class FaceTest {
             Check.due("rule 1: " + one + " is shown", Modifier.isPublic(kind) || Modifier.isProtected(kind), false);
             Check.due("rule 11: fields of " + one, size(one) <= 20, true);
             for (Method method : one.getDeclaredMethods()) {
+                Check.due("rule 1: private " + method, Modifier.isPrivate(method.getModifiers())
+                        && isPublicSomewhere(method.getName()), false);
                 Check.due("rule 11: parameters of " + method, method.getParameterCount() <= 7, true);
             }
         }
+    }
+
+    private static boolean isPublicSomewhere(String name) {
+        for (Method method : FleetFloor.class.getMethods()) {
+            if (method.getName().equals(name)) {
+                return true;
+            }
+        }
+        return false;
     }
 
     private static int size(Class<?> one) {

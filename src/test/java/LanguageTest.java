@@ -2,6 +2,8 @@ import java.io.IOException;
 import java.nio.file.Files;
 import java.nio.file.Path;
 import java.util.List;
+import java.util.Set;
+import java.util.TreeSet;
 import java.util.regex.Matcher;
 import java.util.regex.Pattern;
 
@@ -15,6 +17,9 @@ public final class LanguageTest {
         "\\bpackage\\b", "\\bnative\\b", "\\btransient\\b", "\\bSystem\\.(?!arraycopy\\b)", "\\bThread\\b",
         "\\bRandom\\b", "\\.equals\\(", "\\bhashCode\\b", "\\btoString\\b", "\\bgetClass\\b", "\\w+Exact\\(",
         "\\bdouble\\b", "\\bfloat\\b", "\\bstatic \\{", "\\bprotected\\b", "\\bvar\\b", "[^\\x00-\\x7F]"};
+
+    /** Of the library's methods these alone are called; each stands in rule 4. */
+    private static final Set<String> LIBRARY = Set.of("add", "get", "remove", "size", "max");
 
     private LanguageTest() {
     }
@@ -32,6 +37,7 @@ public final class LanguageTest {
             exceptions(code);
         }
         methodLengths(lines);
+        library(String.join("\n", lines));
         Check.end();
     }
 
@@ -41,6 +47,25 @@ public final class LanguageTest {
             return "";
         }
         return line;
+    }
+
+    private static void library(String program) {
+        Set<String> own = new TreeSet<>();
+        Matcher declared = Pattern.compile("(?m)^ +[\\w <>\\[\\]]+ (\\w+)\\(.*\\{$").matcher(program);
+        while (declared.find()) {
+            own.add(declared.group(1));
+        }
+        Matcher records = Pattern.compile("record \\w+\\((.*)\\)").matcher(program);
+        while (records.find()) {
+            for (String part : records.group(1).split(", ")) {
+                own.add(part.substring(part.indexOf(' ') + 1));
+            }
+        }
+        Matcher called = Pattern.compile("\\.(\\w+)\\(").matcher(program);
+        while (called.find()) {
+            String name = called.group(1);
+            Check.due("rule 4: " + name, own.contains(name) || LIBRARY.contains(name), true);
+        }
     }
 
     private static void exceptions(String code) {
